@@ -162,7 +162,7 @@ public final class ClerestoryPlan {
 
   public int removeDoor(int door) throws IndexOutOfBoundsException {
     doorThere(door);
-    plan.dropDoor(door);
+    plan.doors[door] = null;
     isReckoned = false;
     return plan.countExits(0, MOST_DOORS);
   }
@@ -776,12 +776,6 @@ public final class ClerestoryPlan {
         }
       }
       return true;
-    }
-
-    void dropDoor(int door) {
-      if (door >= 0 && door < MOST_DOORS) {
-        doors[door] = null;
-      }
     }
 
     /** Answers how many are GONE by that. */

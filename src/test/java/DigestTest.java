@@ -29,6 +29,8 @@ public final class DigestTest {
     plan.addRoom(0, 40, 0, 13, 14, 0);
     plan.setPeople(3, 9);
     plan.setPeople(1, 4);
+    plan.setPeople(2, 3);
+    Due.is("23: those of stairs 1", plan.stairsLoad(1), 3);
     check("stairs", plan, 4, 2, 2);
     plan.removeRoom(2);
     check("stairs GONE", plan, 4, 2, 2);

@@ -89,6 +89,17 @@ public final class DoorsTest {
     Due.is("5: OUT till its corner", plan.addDoor(0, -1, 20, 12, true, 2), 0);
     Due.badState("5: OUT, half along it, beyond its end", plan, () -> plan.addDoor(1, -1, 20, 19, true, 2));
     Due.is("5: OUT from its end on", plan.addDoor(1, -1, 20, 20, true, 2), 1);
+    ClerestoryPlan aside = new ClerestoryPlan();
+    aside.addRoom(0, 30, 0, 10, 20, 1);
+    aside.addRoom(0, 40, 4, 10, 5, 1);
+    aside.addRoom(0, 0, 40, 20, 10, 1);
+    aside.addRoom(0, 4, 50, 5, 10, 1);
+    Due.is("5: OUT above the other one", aside.addDoor(0, -1, 40, 9, true, 2), 0);
+    Due.is("5: OUT below the other one", aside.addDoor(0, -1, 40, 2, true, 2), 1);
+    Due.is("5: OUT to the right of the other one", aside.addDoor(2, -1, 9, 50, false, 2), 2);
+    Due.is("5: OUT to the left of the other one", aside.addDoor(2, -1, 2, 50, false, 2), 3);
+    Due.badState("5: OUT along its end", aside, () -> aside.addDoor(0, -1, 40, 8, true, 1));
+    Due.badState("5: OUT along its beginning", aside, () -> aside.addDoor(2, -1, 4, 50, false, 1));
     Due.is("5: a room on another floor is no matter", plan.addDoor(0, -1, 10, 12, true, 2), 2);
     plan.addRoom(0, 0, 10, 10, 10, 1);
     Due.is("5: a room laid later changes nothing", plan.way(2, false), 0);
@@ -127,11 +138,12 @@ public final class DoorsTest {
       Due.is("5: door " + i, plan.addDoor(0, -1, i % 20, i < 20 ? 0 : 30, false, 1), i);
     }
     Due.badState("5: there were 40", plan, () -> plan.addDoor(0, -1, 0, 0, true, 1));
+    Due.is("21: the last one", plan.way(39, false), 0);
     Due.is("9: how many there are then", plan.removeDoor(7), 39);
     Due.badState("5: there were 40, one GONE", plan, () -> plan.addDoor(0, -1, 0, 0, true, 1));
     Due.badArgument("5: there were 40, wide 0 ahead", plan, () -> plan.addDoor(0, -1, 0, 0, true, 0));
     Due.is("12: doors that are not GONE", plan.doors(), 39);
-    Due.is("5: the last one", plan.leaving(0) < 40, true);
+    Due.is("9: the last one", plan.removeDoor(39), 38);
   }
 
   private static void shut() {
@@ -159,6 +171,8 @@ public final class DoorsTest {
       Due.noSuch("9: door " + wrong, plan, () -> plan.removeDoor(wrong));
     }
     plan.shut(2, true);
+    plan.addStairs(0, 2, 15, 15);
+    Due.is("12: stairs are no doors", plan.doors(), 3);
     Due.is("9: two are left, SHUT or not", plan.removeDoor(0), 2);
     Due.noSuch("9: GONE", plan, () -> plan.removeDoor(0));
     Due.is("9: now it is lost", plan.isLost(0), true);

@@ -15,6 +15,7 @@ public final class FaultsTest {
     steepRule();
     wetRule();
     order();
+    manyFaults();
     wrongInputs();
     meanWay();
     Due.end();
@@ -184,6 +185,7 @@ public final class FaultsTest {
     due("nobody is allowed", plan, 8, 0, 61);
     plan.addStairs(0, 2, 6, 5);
     due("on the nearer ones", plan, 8, 1, 61);
+    Due.is("23: the nearer ones", plan.stairsLoad(1), 61);
   }
 
   private static void wetRule() {
@@ -192,18 +194,21 @@ public final class FaultsTest {
     plan.addRoom(0, 4, 0, 4, 4, 0);
     plan.addRoom(0, 0, 4, 4, 4, 1);
     plan.addRoom(0, 30, 0, 4, 4, 3);
-    plan.addRoom(1, 2, 2, 4, 4, 3);
+    plan.addRoom(1, 1, 2, 4, 4, 3);
     plan.addRoom(2, 0, 0, 9, 9, 3);
     plan.addRoom(1, 8, 0, 4, 4, 3);
-    due("two by two of each dwelling; a room beside; one two floors above", plan, 9, 4, 8);
+    due("3 by 2 of one dwelling, 1 by 2 of another; one beside; one two floors above", plan, 9, 4, 8);
+    plan.addRoom(0, 40, 2, 4, 4, 0);
+    plan.addRoom(0, 1, 40, 4, 4, 0);
+    due("dwellings that are far to the right, and far above", plan, 9, 4, 8);
     plan.addRoom(1, 0, 0, 2, 2, 0);
     due("a dwelling on the floor 1", plan, 9, 4, 8, 5, 4);
     plan.setLimit(9, 4);
     due("four are allowed", plan, 9, 4, 4);
-    plan.removeRoom(1);
+    plan.removeRoom(0);
     due("one is GONE", plan, 9);
-    plan.setLimit(9, 3);
-    due("three are allowed", plan, 9, 4, 1, 5, 1);
+    plan.setLimit(9, 1);
+    due("one is allowed", plan, 9, 4, 1, 5, 3);
   }
 
   private static void order() {
@@ -232,6 +237,42 @@ public final class FaultsTest {
     Due.is("27: without room 0", plan.faults(), 7);
     Due.is("28: the first is now", plan.ruleOf(0), 0);
     Due.is("29: the first is now in", plan.whereOf(0), 2);
+  }
+
+  /** Twenty dwellings in a row, each by the next one, in which all is wrong that can be. */
+  private static void manyFaults() {
+    ClerestoryPlan plan = new ClerestoryPlan();
+    for (int i = 0; i < 20; i++) {
+      plan.addRoom(0, 3 * i, 0, 3, 3, 0);
+      plan.addDoor(i, i - 1, 3 * i, 0, true, 1);
+      plan.addDoor(i, i - 1, 3 * i, 1, true, 1);
+      plan.setPeople(i, 200);
+    }
+    for (int rule : new int[] {1, 2, 5, 6, 7}) {
+      plan.setLimit(rule, 0);
+    }
+    plan.setLimit(4, 999);
+    due("the doors by which nobody goes are not crowded", plan, 2, crowd());
+    Due.is("31: one way", plan.broken(6), 0);
+    for (int i = 0; i < 20; i++) {
+      plan.removeDoor(2 * i);
+    }
+    due("one way for the last", plan, 6, 19, 200);
+    Due.is("27: six rules, and the last one way", plan.faults(), 6 * 20 + 1);
+    Due.is("29: the last", plan.whereOf(120), 19);
+    Due.is("30: the last is 20 deep", plan.howMuch(120), 20);
+    plan.shut(1, true);
+    Due.is("27: lost, tight, dark, span; one way the first and the last", plan.faults(), 4 * 20 + 2);
+  }
+
+  /** The doors with odd numbers, at the middle of the sides: all rooms from theirs on go through them. */
+  private static int[] crowd() {
+    int[] want = new int[40];
+    for (int i = 0; i < 20; i++) {
+      want[2 * i] = 2 * i + 1;
+      want[2 * i + 1] = 200 * (20 - i);
+    }
+    return want;
   }
 
   private static void wrongInputs() {

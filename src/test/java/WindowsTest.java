@@ -127,6 +127,7 @@ public final class WindowsTest {
     for (int i = 0; i < 10; i++) {
       Due.is("7: stairs " + i, plan.addStairs(0, 2, 15, 15), i);
     }
+    Due.is("23: the last ones", plan.stairsLoad(9), 0);
     Due.badState("7: there were 10", plan, () -> plan.addStairs(0, 2, 15, 15));
     Due.badArgument("7: there were 10, the point ahead", plan, () -> plan.addStairs(0, 2, 11, 15));
     plan.removeRoom(2);
