@@ -1,14 +1,12 @@
-/** Promises 5, 8, 9, 12 and 15: doors. */
+/** Promises 5, 8, 9, 12 and 15: doors. Their bounds are in BoundsDoorsTest and BoundsOpeningsTest. */
 public final class DoorsTest {
   private static final int NUMBER_MAX = Integer.MAX_VALUE;
 
   public static void main(String[] args) {
-    addDoorExceptions();
     sidesOfOne();
     sidesOfBoth();
     doorsOut();
     piecesInCommon();
-    fortyDoors();
     shut();
     removeDoor();
     areJoined();
@@ -24,27 +22,6 @@ public final class DoorsTest {
     plan.addRoom(0, 0, 0, 2, 2, 1);
     plan.removeRoom(3);
     return plan;
-  }
-
-  private static void addDoorExceptions() {
-    ClerestoryPlan plan = start();
-    for (int wrong : new int[] {-1, 3, 4, 20, Integer.MIN_VALUE, NUMBER_MAX}) {
-      Due.noSuch("5: room " + wrong, plan, () -> plan.addDoor(wrong, 1, 20, 15, true, 2));
-    }
-    for (int wrong : new int[] {-2, 3, 4, 20, Integer.MIN_VALUE, NUMBER_MAX}) {
-      Due.noSuch("5: to " + wrong, plan, () -> plan.addDoor(0, wrong, 20, 15, true, 2));
-    }
-    Due.noSuch("5: no room ahead of a wrong width", plan, () -> plan.addDoor(9, 1, 20, 15, true, 0));
-    Due.noSuch("5: no room to, ahead of a wrong width", plan, () -> plan.addDoor(0, 9, 20, 15, true, 7));
-    for (int wrong : new int[] {0, 7, -1, Integer.MIN_VALUE, NUMBER_MAX}) {
-      Due.badArgument("5: wide " + wrong, plan, () -> plan.addDoor(0, 1, 20, 14, true, wrong));
-    }
-    Due.badArgument("5: the same room", plan, () -> plan.addDoor(0, 0, 20, 15, true, 2));
-    Due.badArgument("5: different floors", plan, () -> plan.addDoor(0, 2, 20, 15, true, 2));
-    Due.badArgument("5: OUT from the floor 1", plan, () -> plan.addDoor(2, -1, 20, 15, true, 2));
-    Due.badArgument("5: different floors ahead of the place", plan, () -> plan.addDoor(0, 2, 0, 0, true, 2));
-    Due.badArgument("5: wide 0 ahead of the place", plan, () -> plan.addDoor(0, 1, 0, 0, true, 0));
-    Due.is("5: the number behind them", plan.addDoor(0, 1, 20, 14, true, 6), 0);
   }
 
   private static void sidesOfOne() {
@@ -129,21 +106,6 @@ public final class DoorsTest {
     plan.removeDoor(0);
     Due.badState("5: now a room is there", plan, () -> plan.addDoor(1, -1, 20, 15, true, 1));
     Due.is("5: GONE is in nobody's way", plan.addDoor(0, -1, 10, 14, true, 1), 6);
-  }
-
-  private static void fortyDoors() {
-    ClerestoryPlan plan = new ClerestoryPlan();
-    plan.addRoom(0, 0, 0, 30, 30, 1);
-    for (int i = 0; i < 40; i++) {
-      Due.is("5: door " + i, plan.addDoor(0, -1, i % 20, i < 20 ? 0 : 30, false, 1), i);
-    }
-    Due.badState("5: there were 40", plan, () -> plan.addDoor(0, -1, 0, 0, true, 1));
-    Due.is("21: the last one", plan.way(39, false), 0);
-    Due.is("9: how many there are then", plan.removeDoor(7), 39);
-    Due.badState("5: there were 40, one GONE", plan, () -> plan.addDoor(0, -1, 0, 0, true, 1));
-    Due.badArgument("5: there were 40, wide 0 ahead", plan, () -> plan.addDoor(0, -1, 0, 0, true, 0));
-    Due.is("12: doors that are not GONE", plan.doors(), 39);
-    Due.is("9: the last one", plan.removeDoor(39), 38);
   }
 
   private static void shut() {

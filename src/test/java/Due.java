@@ -1,3 +1,5 @@
+import java.util.Arrays;
+
 /** What the tests share: it counts and prints each answer that is not the one that is due. */
 final class Due {
   interface Call {
@@ -36,6 +38,21 @@ final class Due {
       wrong++;
       System.out.println(what + " answered " + got + ", due is " + want);
     }
+  }
+
+  /** The plan's faults by this rule are these: where and how much, one after the other. */
+  static void faults(String what, ClerestoryPlan plan, int rule, int... want) {
+    int[] got = new int[2 * plan.broken(rule)];
+    int at = 0;
+    int faults = plan.faults();
+    for (int i = 0; i < faults; i++) {
+      if (plan.ruleOf(i) == rule && at + 1 < got.length) {
+        got[at] = plan.whereOf(i);
+        got[at + 1] = plan.howMuch(i);
+        at += 2;
+      }
+    }
+    is("27 to 31, rule " + rule + ": " + what, Arrays.toString(got), Arrays.toString(want));
   }
 
   /** The call throws an IndexOutOfBoundsException, and changes nothing. */

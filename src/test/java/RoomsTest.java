@@ -1,11 +1,8 @@
-/** Promises 1 to 4, 11 and 14: a new plan, rooms, their people. */
+/** Promises 1 to 4, 11 and 14: a new plan, rooms, their people. Their bounds are in BoundsRoomsTest. */
 public final class RoomsTest {
   public static void main(String[] args) {
     newPlan();
     addRoomTakes();
-    addRoomRefuses();
-    addRoomInside();
-    twentyRooms();
     removeRoom();
     setPeople();
     roomAt();
@@ -36,56 +33,6 @@ public final class RoomsTest {
     Due.is("2: beside", plan.addRoom(2, 30, 60, 30, 30, 1), 3);
     Due.is("2: only a corner in common", plan.addRoom(2, 30, 30, 30, 30, 1), 4);
     Due.is("11: rooms", plan.rooms(), 5);
-  }
-
-  private static void addRoomRefuses() {
-    ClerestoryPlan plan = new ClerestoryPlan();
-    plan.addRoom(0, 0, 0, 1, 1, 0);
-    int[][] wrong = {
-      {-1, 9, 9, 1, 1, 0}, {3, 9, 9, 1, 1, 0}, {0, -1, 9, 1, 1, 0}, {0, 61, 9, 1, 1, 0},
-      {0, 9, -1, 1, 1, 0}, {0, 9, 61, 1, 1, 0}, {0, 9, 9, 0, 1, 0}, {0, 9, 9, 31, 1, 0},
-      {0, 9, 9, 1, 0, 0}, {0, 9, 9, 1, 31, 0}, {0, 9, 9, 1, 1, -1}, {0, 9, 9, 1, 1, 4},
-      {Integer.MIN_VALUE, 9, 9, 1, 1, 0}, {0, Integer.MAX_VALUE, 9, 1, 1, 0},
-      {0, 9, Integer.MIN_VALUE, 1, 1, 0}, {0, 9, 9, Integer.MAX_VALUE, 1, 0},
-      {0, 9, 9, 1, Integer.MAX_VALUE, 0}, {0, 9, 9, 1, 1, Integer.MAX_VALUE},
-      {0, 0, 0, 1, 1, 4}
-    };
-    for (int[] at : wrong) {
-      Due.badArgument("2: addRoom " + java.util.Arrays.toString(at), plan,
-          () -> plan.addRoom(at[0], at[1], at[2], at[3], at[4], at[5]));
-    }
-    Due.is("2: the next number behind them", plan.addRoom(0, 9, 9, 1, 1, 0), 1);
-  }
-
-  private static void addRoomInside() {
-    ClerestoryPlan plan = new ClerestoryPlan();
-    plan.addRoom(0, 10, 10, 10, 10, 0);
-    int[][] inside = {{10, 10, 10, 10}, {12, 12, 2, 2}, {5, 5, 30, 30}, {19, 19, 5, 5}, {5, 5, 6, 6},
-        {0, 12, 30, 1}, {19, 5, 1, 6}};
-    for (int[] at : inside) {
-      Due.badState("2: inside " + at[0] + ", " + at[1], plan,
-          () -> plan.addRoom(0, at[0], at[1], at[2], at[3], 0));
-    }
-    int[][] beside = {{20, 10, 5, 5}, {5, 10, 5, 10}, {10, 20, 10, 1}, {10, 9, 10, 1}, {20, 20, 1, 1}};
-    for (int i = 0; i < beside.length; i++) {
-      int[] at = beside[i];
-      Due.is("2: beside " + at[0] + ", " + at[1], plan.addRoom(0, at[0], at[1], at[2], at[3], 0), i + 1);
-    }
-    plan.removeRoom(0);
-    Due.is("2: GONE is in nobody's way", plan.addRoom(0, 12, 12, 2, 2, 0), 6);
-  }
-
-  private static void twentyRooms() {
-    ClerestoryPlan plan = new ClerestoryPlan();
-    for (int i = 0; i < 20; i++) {
-      Due.is("2: room " + i, plan.addRoom(i % 3, i, i, 1, 1, i % 4), i);
-    }
-    Due.badState("2: there were 20", plan, () -> plan.addRoom(0, 40, 40, 1, 1, 0));
-    plan.removeRoom(19);
-    plan.removeRoom(3);
-    Due.badState("2: there were 20, two GONE", plan, () -> plan.addRoom(0, 40, 40, 1, 1, 0));
-    Due.badArgument("2: there were 20, a wrong use ahead", plan, () -> plan.addRoom(0, 40, 40, 1, 1, 4));
-    Due.is("11: rooms that are not GONE", plan.rooms(), 18);
   }
 
   private static void removeRoom() {

@@ -1,12 +1,10 @@
-/** Promises 24 to 26: time. */
+/** Promises 24 to 26: time. Their bounds are in BoundsTimeTest. */
 public final class TimeTest {
   public static void main(String[] args) {
     tickByTick();
     oneDoor();
     stairs();
     lostAndTraps();
-    longTimes();
-    wrongInputs();
     Due.end();
   }
 
@@ -69,34 +67,5 @@ public final class TimeTest {
     Due.is("25: they are left", ring.left(7), 9);
     Due.is("26: they stay", ring.inRoom(2, 7), 9);
     Due.is("26: nobody comes to the next one", ring.inRoom(3, 7), 0);
-  }
-
-  /** Twenty rooms of 200 in a row, all by one door that is 1 wide: longer than the ticks that can be asked. */
-  private static void longTimes() {
-    ClerestoryPlan plan = new ClerestoryPlan();
-    for (int i = 0; i < 20; i++) {
-      plan.addRoom(0, 3 * i, 0, 3, 3, 1);
-      plan.addDoor(i, i - 1, 3 * i, 1, true, 1);
-      plan.setPeople(i, 200);
-    }
-    Due.is("20: twenty rooms deep", plan.depth(19), 20);
-    Due.is("22: all of them", plan.load(0), 4000);
-    Due.is("24: 4000 by 2", plan.timeOut(), 2000);
-    Due.is("25: behind 999", plan.left(999), 4000 - 1998);
-    Due.is("26: the first room behind 100", plan.inRoom(0, 100), 200);
-    Due.is("26: the last room behind 50", plan.inRoom(19, 50), 100);
-  }
-
-  private static void wrongInputs() {
-    ClerestoryPlan plan = Plans.pair();
-    for (int wrong : new int[] {-1, 1000, Integer.MIN_VALUE, Integer.MAX_VALUE}) {
-      Due.badArgument("25: tick " + wrong, plan, () -> plan.left(wrong));
-      Due.badArgument("26: tick " + wrong, plan, () -> plan.inRoom(0, wrong));
-      Due.noSuch("26: no room, ahead of tick " + wrong, plan, () -> plan.inRoom(3, wrong));
-    }
-    plan.removeRoom(2);
-    for (int wrong : new int[] {-1, 2, 3, 20, Integer.MIN_VALUE, Integer.MAX_VALUE}) {
-      Due.noSuch("26: room " + wrong, plan, () -> plan.inRoom(wrong, 0));
-    }
   }
 }

@@ -1,8 +1,7 @@
-/** Promises 16 to 23: ways, leavings, loads. Lengths are in halves. */
+/** Promises 16 to 23: ways, leavings, loads; lengths are in halves. Their bounds are in BoundsWaysTest. */
 public final class WaysTest {
   public static void main(String[] args) {
     pair();
-    wrongInputs();
     lost();
     oneDoorAfterAnother();
     noTurningRound();
@@ -40,29 +39,6 @@ public final class WaysTest {
     Due.is("22: those of two rooms", plan.load(0), 16);
     Due.is("22: those of all", plan.load(1), 23);
     Due.is("23: those from above", plan.stairsLoad(0), 11);
-  }
-
-  private static void wrongInputs() {
-    ClerestoryPlan plan = Plans.pair();
-    plan.addRoom(1, 20, 0, 4, 4, 1);
-    plan.addDoor(0, -1, 0, 0, true, 1);
-    plan.addStairs(1, 3, 20, 0);
-    plan.removeRoom(3);
-    plan.removeDoor(2);
-    for (int wrong : new int[] {-1, 3, 4, 20, Integer.MIN_VALUE, Integer.MAX_VALUE}) {
-      Due.noSuch("16: room " + wrong, plan, () -> plan.isLost(wrong));
-      Due.noSuch("17: room " + wrong, plan, () -> plan.farWay(wrong));
-      Due.noSuch("18: room " + wrong, plan, () -> plan.leaving(wrong));
-      Due.noSuch("19: room " + wrong, plan, () -> plan.middleWay(wrong));
-      Due.noSuch("20: room " + wrong, plan, () -> plan.depth(wrong));
-    }
-    for (int wrong : new int[] {-1, 2, 3, 40, 50, Integer.MIN_VALUE, Integer.MAX_VALUE}) {
-      Due.noSuch("21: door " + wrong, plan, () -> plan.way(wrong, false));
-      Due.noSuch("22: door " + wrong, plan, () -> plan.load(wrong));
-    }
-    for (int wrong : new int[] {-1, 1, 2, 10, 100, Integer.MIN_VALUE, Integer.MAX_VALUE}) {
-      Due.noSuch("23: stairs " + wrong, plan, () -> plan.stairsLoad(wrong));
-    }
   }
 
   private static void lost() {

@@ -1,11 +1,10 @@
-/** Promises 33 to 36: what would be; nothing is changed by asking. */
+/** Promises 33 to 36: what would be; nothing is changed by asking. Their bounds are in BoundsWouldBeTest. */
 public final class WouldBeTest {
   public static void main(String[] args) {
     faultsWith();
     lostWithout();
     timeWith();
     mostPeople();
-    wrongInputs();
     Due.end();
   }
 
@@ -102,25 +101,5 @@ public final class WouldBeTest {
     plan.removeRoom(0);
     plan.setLimit(3, 1);
     Due.is("36: without any way", plan.mostPeople(2), 20);
-  }
-
-  private static void wrongInputs() {
-    ClerestoryPlan plan = start();
-    plan.addDoor(0, -1, 0, 0, true, 1);
-    plan.removeDoor(2);
-    plan.addRoom(2, 0, 0, 1, 1, 0);
-    plan.removeRoom(3);
-    for (int wrong : new int[] {-1, 2, 3, 40, Integer.MIN_VALUE, Integer.MAX_VALUE}) {
-      Due.noSuch("33: door " + wrong, plan, () -> plan.faultsWith(wrong));
-      Due.noSuch("34: door " + wrong, plan, () -> plan.lostWithout(wrong));
-      Due.noSuch("35: door " + wrong, plan, () -> plan.timeWith(wrong, 1));
-      Due.noSuch("35: door " + wrong + " ahead of the width", plan, () -> plan.timeWith(wrong, 7));
-    }
-    for (int wrong : new int[] {0, 7, -1, Integer.MIN_VALUE, Integer.MAX_VALUE}) {
-      Due.badArgument("35: wide " + wrong, plan, () -> plan.timeWith(0, wrong));
-    }
-    for (int wrong : new int[] {-1, 3, 4, 20, Integer.MIN_VALUE, Integer.MAX_VALUE}) {
-      Due.noSuch("36: room " + wrong, plan, () -> plan.mostPeople(wrong));
-    }
   }
 }
